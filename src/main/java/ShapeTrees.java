@@ -13,7 +13,7 @@ public final class ShapeTrees {
     private static final int MOST_SHAPES = 120;
     private static final int MOST_CORNERS = 24;
     private static final int MOST_PLACES = 80;
-    private static final int MOST_COLUMNS = 20;
+    private static final int MOST_COLUMNS_OR_ROWS = 20;
     private static final int MOST_FLAT = 3000;
     private static final int TURNS = 8;
     private static final long FARTHEST = 1000000L;
@@ -51,15 +51,7 @@ public final class ShapeTrees {
 
     public boolean corner(int polygon, long x, long y)
             throws IndexOutOfBoundsException, IllegalStateException, IllegalArgumentException {
-        Shape shape = openShape(polygon, false);
-        checkCornersLeft(shape);
-        checkNear(x);
-        checkNear(y);
-        if (shape.count > 0 && shape.differences(x, y) == 0) {
-            return false;
-        }
-        shape.add(x, y);
-        return true;
+        return extend(openShape(polygon, false), x, y);
     }
 
     public int path(int cell, int layer, long width, int ends)
@@ -78,15 +70,7 @@ public final class ShapeTrees {
 
     public boolean point(int path, long x, long y)
             throws IndexOutOfBoundsException, IllegalStateException, IllegalArgumentException {
-        Shape shape = openShape(path, true);
-        checkCornersLeft(shape);
-        checkNear(x);
-        checkNear(y);
-        if (shape.count > 0 && shape.differences(x, y) != 1) {
-            return false;
-        }
-        shape.add(x, y);
-        return true;
+        return extend(openShape(path, true), x, y);
     }
 
     public int place(int cell, int of, long x, long y, int turn)
@@ -115,7 +99,7 @@ public final class ShapeTrees {
         if (place < 0 || place >= places.size()) {
             throw new IndexOutOfBoundsException("no such place");
         }
-        if (columns < 1 || columns > MOST_COLUMNS || rows < 1 || rows > MOST_COLUMNS) {
+        if (columns < 1 || columns > MOST_COLUMNS_OR_ROWS || rows < 1 || rows > MOST_COLUMNS_OR_ROWS) {
             throw new IllegalArgumentException("no such columns or rows");
         }
         checkNear(dx);
@@ -251,12 +235,6 @@ public final class ShapeTrees {
         }
     }
 
-    private static void checkCornersLeft(Shape shape) {
-        if (shape.count >= MOST_CORNERS) {
-            throw new IllegalStateException("no more corners or points");
-        }
-    }
-
     private static void checkNear(long number) {
         if (number < -FARTHEST || number > FARTHEST) {
             throw new IllegalArgumentException("out of range");
@@ -273,6 +251,19 @@ public final class ShapeTrees {
         shapes.add(made);
         owner.shapes.add(made);
         return shapes.size() - 1;
+    }
+
+    private static boolean extend(Shape shape, long x, long y) {
+        if (shape.count >= MOST_CORNERS) {
+            throw new IllegalStateException("no more corners or points");
+        }
+        checkNear(x);
+        checkNear(y);
+        if (!shape.takes(x, y)) {
+            return false;
+        }
+        shape.add(x, y);
+        return true;
     }
 
     private boolean wouldHoldItself(Cell owner, Cell other) {
@@ -517,13 +508,14 @@ public final class ShapeTrees {
             return !dropped && !isEmpty && (wantedLayer == ALL_LAYERS || wantedLayer == layer);
         }
 
-        /** In how many of x and y the latest corner is another one. */
-        int differences(long x, long y) {
+        boolean takes(long x, long y) {
             int latest = count - 1;
             if (latest < 0) {
-                return 2;
+                return true;
             }
-            return (xs[latest] == x ? 0 : 1) + (ys[latest] == y ? 0 : 1);
+            boolean isOtherX = xs[latest] != x;
+            boolean isOtherY = ys[latest] != y;
+            return isPath() ? isOtherX != isOtherY : isOtherX || isOtherY;
         }
 
         void add(long x, long y) {
@@ -705,8 +697,7 @@ public final class ShapeTrees {
         /** Mixed so that the sums of unlike rows of shapes are hardly ever the same. */
         private long markOf(int i) {
             int k = shapes[i].orderedIndex(turns[i], 0);
-            long mixed = cornerX(i, k) * 0x9E3779B97F4A7C15L + cornerY(i, k) * 0xC2B2AE3D27D4EB4FL
-                    + shapes[i].layer * 31L + shapes[i].count;
+            long mixed = cornerX(i, k) * 0x9E3779B97F4A7C15L + cornerY(i, k) * 0xC2B2AE3D27D4EB4FL;
             mixed ^= mixed >>> 32;
             return mixed * mixed;
         }

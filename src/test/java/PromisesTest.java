@@ -279,6 +279,31 @@ public final class PromisesTest {
             due("turn " + turn + " laid flat", 1, () -> t.flat(0, 0));
             dueCorners(t, "turn " + turn, 0, turned[turn]);
         }
+        for (int turn = 0; turn < 64; turn++) {
+            turnsInTurns(turn / 8, turn % 8, turned);
+        }
+    }
+
+    /** What is turned and placed at 100, 200, turned by hand once more and moved by -7, 3. */
+    private static void turnsInTurns(int outer, int inner, long[][] turned) {
+        ShapeTrees t = withCells(1, 3);
+        polygon(t, 2, 0, 10, 1, 10, 2, 13, 2);
+        t.place(1, 2, 100, 200, inner);
+        t.place(0, 1, -7, 3, outer);
+        long[] both = turned[inner].clone();
+        for (int i = 0; i < both.length; i += 2) {
+            long x = both[i];
+            long y = outer >= 4 ? -both[i + 1] : both[i + 1];
+            for (int quarter = 0; quarter < outer % 4; quarter++) {
+                long was = x;
+                x = -y;
+                y = was;
+            }
+            both[i] = x - 7;
+            both[i + 1] = y + 3;
+        }
+        due("turn " + inner + " in turn " + outer, 1, () -> t.flat(0, 0));
+        dueCorners(t, "turn " + inner + " in turn " + outer, 0, both);
     }
 
     private static void array() {
@@ -447,8 +472,18 @@ public final class PromisesTest {
         ShapeTrees t = withCells(2, 2);
         int triangle = polygon(t, 0, 0, 1, 2, 3, 4, 5, 7);
         int line = path(t, 0, 0, 2, 0, 0, 0, 0, 9);
-        int placed = t.place(1, 0, 10, 10, 1);
-        due("laid flat", 2, () -> t.flat(1, 0));
+        t.place(1, 0, 10, 10, 0);
+        due("one below is equal", 0, () -> t.equalTo(1));
+        dueThrow("equalTo lays nothing at hand", INDEX, () -> t.at(0, 0, 0));
+        due("find finds", 1, () -> t.find(1, 10, 10, 10, 10));
+        dueThrow("find lays nothing at hand", INDEX, () -> t.at(0, 0, 0));
+        due("laid flat first", 2, () -> t.flat(1, 0));
+        dueCorners(t, "the polygon moved", 0, 11, 12, 13, 14, 15, 17);
+        t.flat(0, 0);
+        due("one below is still equal", 0, () -> t.equalTo(1));
+        dueCorners(t, "after equalTo", 0, 1, 2, 3, 4, 5, 7);
+        int placed = t.place(t.cell(), 0, 10, 10, 1);
+        due("laid flat", 2, () -> t.flat(2, 0));
         dueCorners(t, "the polygon", 0, 8, 11, 6, 13, 3, 15);
         dueCorners(t, "the path", 1, 10, 10, 1, 10);
         for (int bad : new int[] {LOW, -1, 2, HIGH}) {
@@ -470,7 +505,7 @@ public final class PromisesTest {
         t.drop(triangle);
         t.drop(line);
         dueCorners(t, "the polygon as it was, dropped", 0, 8, 11, 6, 13, 3, 15);
-        dueThrow("flat that throws", INDEX, () -> t.flat(2, 0));
+        dueThrow("flat that throws", INDEX, () -> t.flat(3, 0));
         dueCorners(t, "the path as it was, after that", 1, 10, 10, 1, 10);
         due("nothing on layer 1", 0, () -> t.flat(1, 1));
         dueThrow("nothing at hand", INDEX, () -> t.at(0, 0, 0));
@@ -486,6 +521,7 @@ public final class PromisesTest {
         due("the least one", 0, () -> t.equalTo(2));
         equalPolygons();
         equalPaths();
+        equalGrowing();
         equalLayersAndNumbers();
         equalPlaces();
         equalTooMany();
@@ -513,6 +549,7 @@ public final class PromisesTest {
         polygons("mirrored", false, one, new long[] {0, 0, -4, 0, -4, 3, -1, 2});
         polygons("a corner elsewhere", false, one, new long[] {0, 0, 4, 0, 4, 3, 1, 1});
         polygons("a corner twice", false, new long[] {0, 0, 4, 0, 4, 3, 0, 0}, new long[] {0, 0, 4, 0, 4, 3});
+        polygons("a corner more", false, new long[] {0, 0, 1, 0, 1, 1, 1, 0}, new long[] {0, 0, 1, 0, 1, 1});
         polygons("which corner twice", false, new long[] {0, 0, 4, 0, 4, 3, 0, 0}, new long[] {4, 0, 4, 3, 0, 0, 4, 0});
         polygons("the least corner comes often", true,
                 new long[] {0, 0, 1, 1, 0, 0, 2, 2, 0, 0, 1, 2}, new long[] {0, 0, 1, 2, 0, 0, 1, 1, 0, 0, 2, 2});
@@ -535,17 +572,48 @@ public final class PromisesTest {
         paths("a moved path", true, 4, 0, one, new long[] {7, -7, 12, -7, 12, -2, 8, -2});
         paths("the other way round", true, 4, 0, one, new long[] {1, 5, 5, 5, 5, 0, 0, 0});
         paths("another width", false, 6, 0, one, one);
-        paths("another width, the same box", false, 8, 0, new long[] {0, 0, 8, 0}, new long[] {0, 0, 4, 0});
+        paths("another width, the same box", false, 8, 1, new long[] {0, 0, 2, 0, 2, 8}, new long[] {4, 0, 4, 4});
         paths("other ends", false, 4, 1, one, one);
         paths("other ends, the same box", false, 4, 1, new long[] {0, 0, 8, 0}, new long[] {2, 0, 6, 0});
         paths("a ring does not begin elsewhere", false, 4, 0,
                 new long[] {0, 0, 5, 0, 5, 5, 0, 5, 0, 0}, new long[] {5, 0, 5, 5, 0, 5, 0, 0, 5, 0});
         paths("mirrored path", false, 4, 0, one, new long[] {0, 0, -5, 0, -5, 5, -1, 5});
         paths("a point between", false, 4, 0, new long[] {0, 0, 8, 0}, new long[] {0, 0, 4, 0, 8, 0});
+        framed("in a frame, the same", true, 4, 1);
+        framed("in a frame, another width", false, 6, 1);
+        framed("in a frame, other ends", false, 4, 0);
         ShapeTrees t = withCells(1, 2);
         path(t, 0, 0, 2, 0, 0, 0, 5, 0, 5, 5);
         polygon(t, 1, 0, 0, 0, 5, 0, 5, 5);
         duePair("a path and a polygon", false, t);
+    }
+
+    /** Both cells have the same box, whatever the width and the ends are. */
+    private static void framed(String what, boolean isEqual, long width, int ends) {
+        ShapeTrees t = withCells(1, 2);
+        polygon(t, 0, 0, -100, -100, 100, -100, 100, 100);
+        path(t, 0, 0, 4, 1, 0, 0, 5, 0);
+        polygon(t, 1, 0, -100, -100, 100, -100, 100, 100);
+        path(t, 1, 0, width, ends, 5, 0, 0, 0);
+        duePair(what, isEqual, t);
+    }
+
+    private static void equalGrowing() {
+        ShapeTrees t = withCells(1, 4);
+        int one = polygon(t, 0, 0, 5, 5, 9, 5, 9, 9);
+        int other = polygon(t, 1, 0, 15, 5, 19, 5, 19, 9);
+        duePair("before they grow", true, t);
+        t.corner(one, 6, 1);
+        duePair("one has grown", false, t);
+        t.corner(one, 2, 2);
+        t.drop(other);
+        polygon(t, 1, 0, 12, 2, 15, 5, 19, 5, 19, 9, 16, 1);
+        duePair("grown as the other one is made", true, t);
+        t.drop(one);
+        due("nothing and what was dropped", -1, () -> t.equalTo(1));
+        due("what was dropped and nothing", 0, () -> t.equalTo(2));
+        due("also placed", 0, () -> t.place(3, 0, 5, 5, 1));
+        due("also placed, nothing", 0, () -> t.equalTo(3));
     }
 
     private static void equalLayersAndNumbers() {
@@ -572,6 +640,12 @@ public final class PromisesTest {
         polygon(u, 1, 0, 0, 0, 1, 0, 0, 1);
         path(u, 1, 1, 4, 0, 6, 0, 6, 5);
         duePair("not moved as one", false, u);
+        ShapeTrees v = withCells(2, 2);
+        polygon(v, 0, 0, 0, 0, 1, 0, 0, 1);
+        polygon(v, 0, 1, 5, 5, 6, 5, 5, 6);
+        polygon(v, 1, 1, 0, 0, 1, 0, 0, 1);
+        polygon(v, 1, 0, 5, 5, 6, 5, 5, 6);
+        duePair("layers the other way round", false, v);
     }
 
     private static void equalPlaces() {
@@ -592,6 +666,12 @@ public final class PromisesTest {
             t.place(6, i % 2 == 0 ? 2 : 4, 0, 0, 0);
         }
         due("six at one place", -1, () -> t.equalTo(6));
+        ShapeTrees v = withCells(1, 3);
+        polygon(v, 0, 0, -1, -1, 1, 1, 0, 1);
+        v.place(1, 0, 0, 0, 0);
+        v.place(2, 0, 0, 0, 2);
+        due("not turned", 0, () -> v.equalTo(1));
+        due("turned, with the same box and least corner", -1, () -> v.equalTo(2));
         ShapeTrees u = withCells(1, 3);
         polygon(u, 0, 0, 0, 0, 4, 0, 4, 3);
         u.place(1, 0, 0, 0, 0);

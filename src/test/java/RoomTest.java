@@ -1,0 +1,121 @@
+import java.lang.management.ManagementFactory;
+
+/** The dearest calls make no objects, the longest runs stay small, and all of them end soon. */
+public final class RoomTest {
+    private static final long MOST_BYTES_OF_AN_OBJECT = 2000000;
+    private static final long MOST_SECONDS = 60;
+
+    private static int wrong;
+
+    private static long bytes() {
+        com.sun.management.ThreadMXBean bean =
+                (com.sun.management.ThreadMXBean) ManagementFactory.getThreadMXBean();
+        return bean.getThreadAllocatedBytes(Thread.currentThread().getId());
+    }
+
+    private static void check(String what, boolean isRight) {
+        if (!isRight) {
+            wrong++;
+            System.out.println("wrong: " + what);
+        }
+    }
+
+    /** Twenty cells, each of 3000 flat shapes in as deep a tower as can be, all but two of them unequal. */
+    private static ShapeTrees tower() {
+        ShapeTrees t = new ShapeTrees(2);
+        for (int i = 0; i < 20; i++) {
+            t.cell();
+        }
+        for (int i = 0; i < 15; i++) {
+            int made = t.polygon(0, i % 2);
+            for (int k = 0; k < 24; k++) {
+                t.corner(made, k * k % 7, k * (i + 3) % 11);
+            }
+        }
+        int first = t.place(1, 0, 0, 0, 5);
+        t.array(first, 20, 10, 3, 5);
+        for (int i = 2; i < 20; i++) {
+            t.place(i, i - 1, i, -i, i % 8);
+        }
+        return t;
+    }
+
+    /** Every kind of dear call; what is kept is small, so the object alone may be counted. */
+    private static long dearCalls(ShapeTrees t, int times) {
+        long sum = 0;
+        for (int i = 0; i < times; i++) {
+            sum += t.flat(19, i % 2);
+            sum += t.at(i, 3, 1);
+            sum += t.equalTo(19);
+            sum += t.equalTo(18 - i % 10);
+            sum += t.find(19, -1000000, -1000000, 1000000, 1000000);
+            sum += t.box(19, i % 2, i % 4);
+            sum += t.place(1, 19, 0, 0, 0);
+        }
+        return sum;
+    }
+
+    /** Each cell four times in the next one: no call may go down every way. */
+    private static void manyWays() {
+        ShapeTrees t = new ShapeTrees(1);
+        t.cell();
+        for (int i = 1; i < 20; i++) {
+            t.cell();
+            for (int k = 0; k < 4; k++) {
+                t.place(i, i - 1, k, i, k);
+            }
+        }
+        check("nothing laid flat", t.flat(19, 0) == 0);
+        check("no cell is in itself", t.place(0, 19, 0, 0, 0) == ShapeTrees.NONE);
+        check("a cell once more in the other", t.place(19, 0, 0, 0, 0) == 76);
+        int made = t.polygon(0, 0);
+        for (int k = 0; k < 3; k++) {
+            t.corner(made, k, k * k);
+        }
+        check("a box", t.box(19, 0, 0) < t.box(19, 0, 2));
+        boolean isRefused = false;
+        try {
+            t.flat(19, 0);
+        } catch (UnsupportedOperationException e) {
+            isRefused = true;
+        }
+        check("too many to lay flat", isRefused);
+    }
+
+    private static void watch() {
+        Thread watch = new Thread(() -> {
+            try {
+                Thread.sleep(MOST_SECONDS * 1000);
+            } catch (InterruptedException e) {
+                return;
+            }
+            System.out.println("wrong: no end after " + MOST_SECONDS + " seconds");
+            System.exit(1);
+        });
+        watch.setDaemon(true);
+        watch.start();
+    }
+
+    public static void main(String[] args) {
+        watch();
+        manyWays();
+        bytes();
+        long before = bytes();
+        ShapeTrees t = tower();
+        long made = bytes() - before;
+        check("an object takes " + made + " bytes", made <= MOST_BYTES_OF_AN_OBJECT);
+
+        check("the tower has 3000 shapes", t.find(19, -1000000, -1000000, 1000000, 1000000) == 3000);
+        // Once before it counts: what the machine itself makes at the first time is not the class's.
+        dearCalls(t, 20);
+        before = bytes();
+        dearCalls(t, 20);
+        long called = bytes() - before;
+        check("dear calls make " + called + " bytes", called <= 2000);
+
+        System.out.println("an object: " + made + " bytes, 140 dear calls: " + called + " bytes, " + wrong + " wrong");
+        if (wrong != 0) {
+            System.exit(1);
+        }
+    }
+}
