@@ -1,97 +1,5 @@
 /** One method for each promise: ordinary inputs, the edges that the document names, and wrong inputs. */
-public final class PromisesTest {
-    private interface Call {
-        long answer();
-    }
-
-    private static final Class<?> INDEX = IndexOutOfBoundsException.class;
-    private static final Class<?> STATE = IllegalStateException.class;
-    private static final Class<?> ARGUMENT = IllegalArgumentException.class;
-    private static final Class<?> UNSUPPORTED = UnsupportedOperationException.class;
-    private static final int LOW = Integer.MIN_VALUE;
-    private static final int HIGH = Integer.MAX_VALUE;
-
-    private static String promise = "";
-    private static int checks;
-    private static int wrong;
-
-    private static void due(String what, long want, Call call) {
-        checks++;
-        String got;
-        try {
-            long answer = call.answer();
-            if (answer == want) {
-                return;
-            }
-            got = "" + answer;
-        } catch (RuntimeException e) {
-            got = e.toString();
-        }
-        complain(what, got, "" + want);
-    }
-
-    private static void dueThrow(String what, Class<?> want, Call call) {
-        checks++;
-        String got;
-        try {
-            got = "" + call.answer();
-        } catch (RuntimeException e) {
-            if (e.getClass() == want) {
-                return;
-            }
-            got = e.toString();
-        }
-        complain(what, got, want.getSimpleName());
-    }
-
-    private static void complain(String what, String got, String want) {
-        wrong++;
-        System.out.println(promise + ": " + what + " answered " + got + ", due is " + want);
-    }
-
-    private static long bit(boolean answer) {
-        return answer ? 1 : 0;
-    }
-
-    private static int polygon(ShapeTrees t, int cell, int layer, long... xy) {
-        int made = t.polygon(cell, layer);
-        for (int i = 0; i + 1 < xy.length; i += 2) {
-            t.corner(made, xy[i], xy[i + 1]);
-        }
-        return made;
-    }
-
-    private static int path(ShapeTrees t, int cell, int layer, long width, int ends, long... xy) {
-        int made = t.path(cell, layer, width, ends);
-        for (int i = 0; i + 1 < xy.length; i += 2) {
-            t.point(made, xy[i], xy[i + 1]);
-        }
-        return made;
-    }
-
-    private static void dueBox(ShapeTrees t, String what, int cell, int layer, long... sides) {
-        for (int side = 0; side < 4; side++) {
-            int s = side;
-            due(what + ", side " + s, sides[s], () -> t.box(cell, layer, s));
-        }
-    }
-
-    private static void dueCorners(ShapeTrees t, String what, int shape, long... xy) {
-        for (int i = 0; i < xy.length; i++) {
-            int j = i;
-            due(what + ", corner " + i / 2 + " axis " + i % 2, xy[i], () -> t.at(shape, j / 2, j % 2));
-        }
-        dueThrow(what + ", one corner more", INDEX, () -> t.at(shape, xy.length / 2, 0));
-    }
-
-    private static ShapeTrees withCells(int layers, int cells) {
-        ShapeTrees t = new ShapeTrees(layers);
-        for (int i = 0; i < cells; i++) {
-            t.cell();
-        }
-        return t;
-    }
-
+public final class PromisesTest extends Dues {
     private static void newObject() {
         ShapeTrees none = new ShapeTrees(3);
         dueThrow("polygon in no cell", INDEX, () -> none.polygon(0, 0));
@@ -771,29 +679,21 @@ public final class PromisesTest {
         due("the next number is a new one", 3, () -> t.polygon(0, 0));
     }
 
-    private static void run(int number, String name, Runnable test) {
-        promise = "promise " + number + " (" + name + ")";
-        test.run();
-    }
-
     public static void main(String[] args) {
-        run(1, "a new object", PromisesTest::newObject);
-        run(2, "cell", PromisesTest::cell);
-        run(3, "polygon", PromisesTest::polygon);
-        run(4, "corner", PromisesTest::corner);
-        run(5, "path", PromisesTest::path);
-        run(6, "point", PromisesTest::point);
-        run(7, "place", PromisesTest::place);
-        run(8, "array", PromisesTest::array);
-        run(9, "box", PromisesTest::box);
-        run(10, "flat", PromisesTest::flat);
-        run(11, "at", PromisesTest::at);
-        run(12, "equalTo", PromisesTest::equalTo);
-        run(13, "find", PromisesTest::find);
-        run(14, "drop", PromisesTest::drop);
-        System.out.println(checks + " checks, " + wrong + " wrong");
-        if (wrong != 0) {
-            System.exit(1);
-        }
+        test("promise 1 (a new object)", PromisesTest::newObject);
+        test("promise 2 (cell)", PromisesTest::cell);
+        test("promise 3 (polygon)", PromisesTest::polygon);
+        test("promise 4 (corner)", PromisesTest::corner);
+        test("promise 5 (path)", PromisesTest::path);
+        test("promise 6 (point)", PromisesTest::point);
+        test("promise 7 (place)", PromisesTest::place);
+        test("promise 8 (array)", PromisesTest::array);
+        test("promise 9 (box)", PromisesTest::box);
+        test("promise 10 (flat)", PromisesTest::flat);
+        test("promise 11 (at)", PromisesTest::at);
+        test("promise 12 (equalTo)", PromisesTest::equalTo);
+        test("promise 13 (find)", PromisesTest::find);
+        test("promise 14 (drop)", PromisesTest::drop);
+        end();
     }
 }
