@@ -531,6 +531,13 @@ public final class PromiseBoundariesTest extends Dues {
         t.array(1, 7, 1, 0, 0);
         due("not too many any more", 0, () -> t.equalTo(3));
         due("2800 in the one below", -1, () -> t.equalTo(4));
+        ShapeTrees u = withCells(1, 4);
+        polygon(u, 3, 0, TRIANGLE);
+        arrayPlace(u, 2, 3, 20, 20);
+        arrayPlace(u, 0, 2, 8, 1);
+        dueThrow("of the very first", UNSUPPORTED, () -> u.equalTo(0));
+        dueThrow("of the very first below one without shapes", UNSUPPORTED, () -> u.equalTo(1));
+        dueThrow("of the very first below the last", UNSUPPORTED, () -> u.equalTo(3));
     }
 
     private static void pointInCommon() {

@@ -129,7 +129,7 @@ public final class PromisesTest extends Dues {
         }
         for (int i = 3; i < 24; i++) {
             int n = i;
-            due("point " + n, 1, () -> bit(t.point(made, n % 2 == 0 ? n - 1 : n, n % 2 == 0 ? n : n == 3 ? 1000000 : n - 1)));
+            due("point " + n, 1, () -> bit(t.point(made, n, 1000000)));
         }
         dueThrow("point 24", STATE, () -> bit(t.point(made, 0, 0)));
         dueThrow("point 24, out of range", STATE, () -> bit(t.point(made, 1000001, 0)));
@@ -464,7 +464,8 @@ public final class PromisesTest extends Dues {
         polygons("the least corner comes often, else", true,
                 new long[] {0, 0, 1, 1, 0, 0, 2, 2, 0, 0, 1, 2}, new long[] {0, 0, 2, 2, 0, 0, 1, 1, 0, 0, 1, 2});
         polygons("the least corner comes often, unequal", false,
-                new long[] {0, 0, 1, 1, 0, 0, 2, 2, 0, 0, 1, 2, 2, 0}, new long[] {0, 0, 2, 2, 0, 0, 1, 1, 0, 0, 1, 2, 2, 0});
+                new long[] {0, 0, 1, 1, 0, 0, 2, 2, 0, 0, 1, 2, 2, 0},
+                new long[] {0, 0, 2, 2, 0, 0, 1, 1, 0, 0, 1, 2, 2, 0});
     }
 
     private static void paths(String what, boolean isEqual, long width, int ends, long[] one, long[] other) {
@@ -522,6 +523,15 @@ public final class PromisesTest extends Dues {
         due("what was dropped and nothing", 0, () -> t.equalTo(2));
         due("also placed", 0, () -> t.place(3, 0, 5, 5, 1));
         due("also placed, nothing", 0, () -> t.equalTo(3));
+        ShapeTrees u = withCells(1, 2);
+        int line = path(u, 0, 0, 2, 0, 5, 0, 0, 0);
+        int twin = path(u, 1, 0, 2, 0, 0, 0, 5, 0);
+        duePair("paths before they grow", true, u);
+        u.point(line, 0, 7);
+        duePair("one path has grown", false, u);
+        u.drop(twin);
+        path(u, 1, 0, 2, 0, 0, 7, 0, 0, 5, 0);
+        duePair("a path grown as the other one is made", true, u);
     }
 
     private static void equalLayersAndNumbers() {

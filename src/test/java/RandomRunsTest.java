@@ -394,7 +394,9 @@ public final class RandomRunsTest {
             return "" + call.answer();
         } catch (IndexOutOfBoundsException | IllegalStateException | IllegalArgumentException
                 | UnsupportedOperationException e) {
-            return e.getClass().getSimpleName();
+            String thrower = e.getStackTrace().length > 0 ? e.getStackTrace()[0].getClassName() : "the machine";
+            boolean isOwn = thrower.startsWith("ShapeTrees") || thrower.startsWith("RandomRunsTest");
+            return e.getClass().getSimpleName() + (isOwn ? "" : " of " + thrower);
         }
     }
 

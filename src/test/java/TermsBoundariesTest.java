@@ -307,14 +307,21 @@ public final class TermsBoundariesTest extends Dues {
 
     /** Four quarters, and twice a mirror, are none. */
     private static void turnsOverTurns() {
-        for (int turn = 0; turn < 8; turn++) {
+        long[][] turned = {{3, 1}, {-1, 3}, {-3, -1}, {1, -3}, {3, -1}, {1, 3}, {-3, 1}, {-1, -3}};
+        for (int outer = 0; outer < 8; outer++) {
             ShapeTrees t = withCells(1, 3);
             polygon(t, 0, 0, 3, 1, 0, 0, 1, 0);
-            t.place(1, 0, 0, 0, turn);
-            int back = turn >= 4 ? turn : (4 - turn) % 4;
-            t.place(2, 1, 0, 0, back);
-            due("turn " + turn + " and " + back, 1, () -> t.flat(2, 0));
-            dueCorners(t, "turn " + turn + " and " + back, 0, 3, 1, 0, 0, 1, 0);
+            for (int inner = 0; inner < 8; inner++) {
+                t.place(1, 0, 0, 0, inner);
+            }
+            t.place(2, 1, 0, 0, outer);
+            due("all turns in turn " + outer, 8, () -> t.flat(2, 0));
+            for (int inner = 0; inner < 8; inner++) {
+                int n = inner;
+                int both = (outer < 4 ? outer + inner : outer + 8 - inner) % 4 + (outer / 4 + inner / 4) % 2 * 4;
+                due("turn " + n + " in turn " + outer + ", x", turned[both][0], () -> t.at(n, 0, 0));
+                due("turn " + n + " in turn " + outer + ", y", turned[both][1], () -> t.at(n, 0, 1));
+            }
         }
     }
 
@@ -355,6 +362,20 @@ public final class TermsBoundariesTest extends Dues {
         due("the same once more", 20, () -> t.place(0, 19, 0, 0, 0));
         polygon(t, 19, 0, TRIANGLE);
         due("over the chain and twice directly", 3, () -> t.flat(0, 0));
+    }
+
+    /** A cell over two ways in another one is not in itself. */
+    private static void overTwoWays() {
+        ShapeTrees t = withCells(1, 5);
+        t.place(0, 1, 0, 0, 0);
+        t.place(0, 2, 0, 0, 0);
+        t.place(1, 3, 0, 0, 0);
+        due("the other way to 3", 3, () -> t.place(2, 3, 0, 0, 0));
+        due("all of it in 4", 4, () -> t.place(4, 0, 0, 0, 0));
+        due("4 in 3, at the end of both ways", -1, () -> t.place(3, 4, 0, 0, 0));
+        due("4 in 2, on the second way", -1, () -> t.place(2, 4, 0, 0, 0));
+        polygon(t, 3, 0, TRIANGLE);
+        due("laid flat", 2, () -> t.flat(4, 0));
     }
 
     private static void laidFlat() {
@@ -460,6 +481,12 @@ public final class TermsBoundariesTest extends Dues {
         due("one more", -1, () -> t.equalTo(1));
         t.array(0, 1, 1, 0, 0);
         due("each as often", 0, () -> t.equalTo(1));
+        ShapeTrees u = withCells(1, 2);
+        polygon(u, 0, 0, 0, 0, 10, 0, 10, 10);
+        polygon(u, 0, 0, 0, 5, 20, 0, 20, 10);
+        polygon(u, 1, 0, 0, 5, 10, 0, 10, 10);
+        polygon(u, 1, 0, 0, 0, 20, 0, 20, 10);
+        due("all corners as often, but two have changed their polygons", -1, () -> u.equalTo(1));
     }
 
     private static void equalPolygons() {
@@ -478,7 +505,36 @@ public final class TermsBoundariesTest extends Dues {
         }
         duePolygons("another order", false, one, 0, 0, 5, 0, 2, 3, 5, 4, 0, 4);
         duePolygons("the first once more at the end", false, one, 0, 0, 5, 0, 5, 4, 2, 3, 0, 4, 0, 0);
-        duePolygons("mirrored", false, new long[] {0, 0, 5, 0, 5, 4}, 5, 0, 0, 0, 0, 4);
+        duePolygons("one corner's y by 1", false, one, 0, 0, 5, 0, 5, 4, 2, 2, 0, 4);
+        duePolygons("one corner's x by 1", false, one, 0, 0, 5, 0, 5, 4, 3, 3, 0, 4);
+        duePolygons("another corner's y", false, new long[] {0, 0, 0, 9, 9, 5}, 0, 0, 0, 9, 9, 4);
+        long[] two = {0, 0, 5, 0, 5, 4};
+        duePolygons("mirrored", false, two, 5, 0, 0, 0, 0, 4);
+        duePolygons("twice round", false, two, 0, 0, 5, 0, 5, 4, 0, 0, 5, 0, 5, 4);
+        duePolygons("once round", false, new long[] {0, 0, 5, 0, 5, 4, 0, 0, 5, 0, 5, 4}, two);
+        duePolygons("the least corner in the middle as well", true,
+                new long[] {0, 0, 1, 1, 0, 0, 2, 2, 3, 0}, 0, 0, 3, 0, 2, 2, 0, 0, 1, 1);
+    }
+
+    /** Both cells have the third one in the same boxes, but for one of them. */
+    private static void duePlaces(String what, boolean isEqual, long... xy) {
+        ShapeTrees t = withCells(1, 3);
+        polygon(t, 0, 0, 0, 0, 3, 0, 0, 5);
+        t.place(1, 0, 0, 0, 2);
+        t.place(1, 0, 7, 7, 2);
+        t.place(1, 0, 20, 20, 2);
+        for (int i = 0; i < xy.length; i += 2) {
+            t.place(2, 0, xy[i], xy[i + 1], 2);
+        }
+        due(what, isEqual ? 1 : -1, () -> t.equalTo(2));
+    }
+
+    private static void equalPlaces() {
+        duePlaces("in another order", true, 20, 20, 7, 7, 0, 0);
+        duePlaces("one of them moved in x", false, 20, 20, 8, 7, 0, 0);
+        duePlaces("one of them moved in y", false, 20, 20, 7, 8, 0, 0);
+        duePlaces("one of them moved onto another", false, 20, 20, 20, 20, 0, 0);
+        duePlaces("all moved", true, FAR, FAR, FAR - 20, FAR - 20, FAR - 13, FAR - 13);
     }
 
     private static void duePaths(String what, boolean isEqual, long width, int ends, long... other) {
@@ -605,6 +661,7 @@ public final class TermsBoundariesTest extends Dues {
         test("mirrored (perhaps), turned by so many quarters", TermsBoundariesTest::turnsOverTurns);
         test("An ARRAY of C columns and R rows has that C times R times", TermsBoundariesTest::arrays);
         test("No cell is in itself, directly or over others.", TermsBoundariesTest::notInItself);
+        test("No cell is in itself .. over others, over two ways", TermsBoundariesTest::overTwoWays);
         test("LAID FLAT a cell has shapes: its own ones that are not empty, by numbers; then ..",
                 TermsBoundariesTest::laidFlat);
         test("(Paths keep widths and ends.)", TermsBoundariesTest::pathsKeep);
@@ -614,6 +671,7 @@ public final class TermsBoundariesTest extends Dues {
         test("the least x and the least y of all their boxes are 0", TermsBoundariesTest::equalByBoxes);
         test("they have the same shapes, each as often", TermsBoundariesTest::equalAsOften);
         test("polygons .. whichever comes first and in whichever direction", TermsBoundariesTest::equalPolygons);
+        test("the same shapes .. laid flat and placed", TermsBoundariesTest::equalPlaces);
         test("paths with the same points in the same order or the other way round, width and ends",
                 TermsBoundariesTest::equalPaths);
         test("on the same layers", TermsBoundariesTest::equalLayers);

@@ -40,12 +40,14 @@ abstract class Dues {
         System.out.println(tested + ": " + what + " answered " + got + ", due is " + want);
     }
 
-    /** The answer, or the name of the very class that is thrown. */
+    /** The answer, or the name of the very class that is thrown, by a line of ShapeTrees and not by the library. */
     static String told(Call call) {
         try {
             return "" + call.answer();
         } catch (RuntimeException e) {
-            return e.getClass().getSimpleName();
+            StackTraceElement[] lines = e.getStackTrace();
+            boolean isOwn = lines.length > 0 && lines[0].getClassName().startsWith("ShapeTrees");
+            return e.getClass().getSimpleName() + (isOwn ? "" : ", not thrown by ShapeTrees itself");
         }
     }
 
