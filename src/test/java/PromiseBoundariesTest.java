@@ -643,6 +643,7 @@ public final class PromiseBoundariesTest extends Dues {
     }
 
     public static void main(String[] args) {
+        Watch.start();
         test("1: No cells", PromiseBoundariesTest::noCells);
         test("1: so many layers (1, if they are below that, 65536, if above)", PromiseBoundariesTest::soManyLayers);
         test("1: nothing laid flat", PromiseBoundariesTest::nothingLaidFlat);

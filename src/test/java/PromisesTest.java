@@ -690,6 +690,7 @@ public final class PromisesTest extends Dues {
     }
 
     public static void main(String[] args) {
+        Watch.start();
         test("promise 1 (a new object)", PromisesTest::newObject);
         test("promise 2 (cell)", PromisesTest::cell);
         test("promise 3 (polygon)", PromisesTest::polygon);

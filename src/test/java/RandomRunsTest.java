@@ -647,6 +647,7 @@ public final class RandomRunsTest {
     }
 
     public static void main(String[] args) {
+        Watch.start();
         int wrong = 0;
         for (int run = 0; run < RUNS && wrong < 3; run++) {
             RandomRunsTest test = new RandomRunsTest(run);

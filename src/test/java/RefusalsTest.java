@@ -246,6 +246,7 @@ public final class RefusalsTest extends Dues {
     }
 
     public static void main(String[] args) {
+        Watch.start();
         test("cell", RefusalsTest::cell);
         test("polygon", RefusalsTest::polygon);
         test("corner", RefusalsTest::corner);

@@ -3,7 +3,6 @@ import java.lang.management.ManagementFactory;
 /** The dearest calls make no objects, the longest runs stay small, and all of them end soon. */
 public final class RoomTest {
     private static final long MOST_BYTES_OF_AN_OBJECT = 2000000;
-    private static final long MOST_SECONDS = 60;
     /** With the tower's own calls just under the 512 for which an object is used. */
     private static final int ROUNDS = 13;
 
@@ -84,22 +83,8 @@ public final class RoomTest {
         check("too many to lay flat", isRefused);
     }
 
-    private static void watch() {
-        Thread watch = new Thread(() -> {
-            try {
-                Thread.sleep(MOST_SECONDS * 1000);
-            } catch (InterruptedException e) {
-                return;
-            }
-            System.out.println("wrong: no end after " + MOST_SECONDS + " seconds");
-            System.exit(1);
-        });
-        watch.setDaemon(true);
-        watch.start();
-    }
-
     public static void main(String[] args) {
-        watch();
+        Watch.start();
         manyWays();
         bytes();
         long before = bytes();

@@ -638,6 +638,7 @@ public final class TermsBoundariesTest extends Dues {
     }
 
     public static void main(String[] args) {
+        Watch.start();
         test("An object is used for at most 512 calls after it has been made", TermsBoundariesTest::fullRun);
         test("CELLS 0 .. 19.", TermsBoundariesTest::cells);
         test("SHAPES 0 .. 119 (polygons and paths, in the order in which they were made)", TermsBoundariesTest::shapes);
